@@ -22,4 +22,29 @@ final class Check {
             System.exit(1);
         }
     }
+
+    /** What town() answers to a text. */
+    static int read(OnlyUnseen x, String text) {
+        for (int i = 0; i < text.length(); i++) {
+            x.feed(text.charAt(i));
+        }
+        return x.town();
+    }
+
+    static OnlyUnseen town(String text) {
+        OnlyUnseen x = new OnlyUnseen();
+        if (read(x, text) < 0) {
+            throw new IllegalStateException("no town: " + text);
+        }
+        return x;
+    }
+
+    /** A row of ints in shelf 0. */
+    static OnlyUnseen withRow(OnlyUnseen x, int... elements) {
+        x.row(0, 2, elements.length);
+        for (int i = 0; i < elements.length; i++) {
+            x.set(0, i, elements[i]);
+        }
+        return x;
+    }
 }

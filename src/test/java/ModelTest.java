@@ -38,21 +38,34 @@ public final class ModelTest {
         model = new Model();
     }
 
-    private long number() {
-        int way = random.nextInt(100);
-        if (way < 3) {
-            return WILD[random.nextInt(WILD.length)];
+    private int below(int n) {
+        return n > 0 ? random.nextInt(n) : 0;
+    }
+
+    private int wildNumber() {
+        switch (random.nextInt(4)) {
+            case 0: return (int) WILD[random.nextInt(WILD.length)];
+            case 1: return 18 + random.nextInt(4);
+            case 2: return 38 + random.nextInt(4);
+            default: return random.nextInt(12) - 2;
         }
-        if (way < 8) {
-            return random.nextInt(60) - 10;
+    }
+
+    /** Mostly a number that may be, by what the parameter is called. */
+    private int numberFor(String parameter) {
+        if (random.nextInt(12) == 0) {
+            return wildNumber();
         }
-        if (way < 12) {
-            return 18 + random.nextInt(4);
+        switch (parameter) {
+            case "one": case "other": return below(model.status(1)) - (random.nextInt(20) == 0 ? 1 : 0);
+            case "sight": return below(model.status(0));
+            case "s": case "p": case "q": return below(random.nextInt(3) == 0 ? 8 : 4);
+            case "kind": return below(6);
+            case "how": case "what": return below(random.nextInt(3) == 0 ? 18 : 3);
+            case "set": return below(1 << model.status(1));
+            case "letter": return ';';
+            default: return below(random.nextInt(4) == 0 ? 21 : 6) - (random.nextInt(9) == 0 ? 1 : 0);
         }
-        if (way < 16) {
-            return 38 + random.nextInt(4);
-        }
-        return way < 60 ? random.nextInt(4) : random.nextInt(10) - 1;
     }
 
     private boolean call(Method m, Object... args) {
@@ -64,7 +77,7 @@ public final class ModelTest {
             told.add(call + " = " + want);
             check.due(call, got, want);
             if (got != want) {
-                System.out.println(String.join("\n", told));
+                System.out.println(String.join("\n", told.subList(Math.max(0, told.size() - 60), told.size())));
             }
             return got == want;
         } catch (ReflectiveOperationException e) {
@@ -83,15 +96,16 @@ public final class ModelTest {
     }
 
     private Object[] argumentsFor(Method m) {
+        // the names of parameters are there because the tests are compiled with -parameters
         Class<?>[] types = m.getParameterTypes();
         Object[] args = new Object[types.length];
         for (int i = 0; i < types.length; i++) {
             if (types[i] == boolean.class) {
                 args[i] = random.nextInt(4) > 0;
             } else if (types[i] == long.class) {
-                args[i] = random.nextInt(9) == 0 ? number() : random.nextInt(7) * 10L + random.nextInt(5);
+                args[i] = random.nextInt(9) == 0 ? WILD[random.nextInt(WILD.length)] : saying();
             } else {
-                args[i] = (int) number();
+                args[i] = numberFor(m.getParameters()[i].getName());
             }
         }
         return args;
@@ -155,13 +169,31 @@ public final class ModelTest {
         return good;
     }
 
+    private long saying() {
+        return 10L * below(model.status(1)) + below(model.status(0));
+    }
+
     private boolean rows() {
-        boolean good = callByName("row", random.nextInt(3), random.nextInt(4), 1 + random.nextInt(8));
+        int s = random.nextInt(3);
+        boolean good = callByName("row", s, random.nextInt(4), 1 + random.nextInt(8));
         for (int k = 0; k < 6 && good; k++) {
-            long v = random.nextInt(6) * 10L + random.nextInt(4);
-            good = callByName("set", random.nextInt(3), random.nextInt(6), v);
+            good = callByName("set", s, random.nextInt(6), random.nextInt(3) == 0 ? sayable() : saying());
         }
         return good;
+    }
+
+    private long sayable() {
+        long v = saying();
+        // with nobody there the question would be refused, and counted by the model alone
+        for (int k = 0; k < 20 && model.status(1) > 0 && model.may((int) v / 10, (int) v % 10) == 0; k++) {
+            v = saying();
+        }
+        return v;
+    }
+
+    /** Calls after which soon everybody knows all, or that cost the model much. */
+    private boolean isRare(String name) {
+        return name.matches("order|image|back|sights|round|talk|evening|say|person") && random.nextInt(6) > 0;
     }
 
     private void run() {
@@ -169,12 +201,11 @@ public final class ModelTest {
         while (good && told.size() < CALLS) {
             int way = random.nextInt(60);
             Method m = methods.get(random.nextInt(methods.size()));
-            boolean rare = m.getName().matches("order|image|back|sights") && random.nextInt(4) > 0;
             if (way == 0 && random.nextInt(3) == 0) {
                 good = readTown();
             } else if (way < 4) {
                 good = rows();
-            } else if (!rare) {
+            } else if (!isRare(m.getName())) {
                 good = call(m, argumentsFor(m));
             }
         }
