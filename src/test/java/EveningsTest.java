@@ -58,6 +58,10 @@ public final class EveningsTest {
         check.due("falsely of no saying", x.falsely(0, 2), -2);
         check.due("surely of no saying", x.surely(0, 2, 0), -2);
         check.due("free of no saying", x.free(0, 2, 0), -2);
+        Check.withRow(x, 0, 24);
+        check.due("falsely of no sight", x.falsely(0, 2), -2);
+        check.due("surely of a saying of no sight", x.surely(0, 2, 0), -2);
+        check.due("free of a saying of no sight", x.free(0, 2, 0), -2);
         check.due("free ahead of it", x.free(0, 1, 0), 2);
     }
 

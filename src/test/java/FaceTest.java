@@ -34,6 +34,10 @@ public final class FaceTest {
         return all;
     }
 
+    private static boolean isOfFace(String name) {
+        return shown().stream().anyMatch(s -> s.contains(" " + name + "("));
+    }
+
     public static void main(String[] args) throws Exception {
         Check check = new Check();
         check.due("NONE", OnlyUnseen.NONE, -1);
@@ -52,6 +56,11 @@ public final class FaceTest {
         for (Class<?> c : OnlyUnseen.class.getDeclaredClasses()) {
             if (!Modifier.isStatic(c.getModifiers()) || Modifier.isPublic(c.getModifiers())) {
                 check.fail("class " + c.getName() + " is public or not static");
+            }
+            for (Method m : c.getDeclaredMethods()) {
+                if (Modifier.isPrivate(m.getModifiers()) && isOfFace(m.getName())) {
+                    check.fail("private " + c.getName() + "." + m.getName() + " bears a name of the face");
+                }
             }
         }
         check.end("FaceTest");

@@ -156,6 +156,17 @@ public final class RoundsTest {
         }
     }
 
+    private static void ordersThatTie() {
+        OnlyUnseen x = Check.town("person 0 0 heard 0;person 0 0;person 0 0;person 0 0 heard 1;"
+            + "hears 0 1;hears 1 0;hears 1 2;hears 2 1;hears 2 3;hears 3 2");
+        check.due("two ways at odds", x.order(-1), 7);
+        int[] who = {0, 1, 3, 2};
+        for (int i = 0; i < 4; i++) {
+            check.due("two ways at odds " + i, x.order(i), who[i]);
+        }
+        check.due("order is not refused", x.status(12), 0);
+    }
+
     private static void worths() {
         OnlyUnseen x = Check.town(LINE);
         check.due("worth of a link", x.worth(1, 3), 2);
@@ -213,6 +224,7 @@ public final class RoundsTest {
         stopping();
         telling();
         orders();
+        ordersThatTie();
         worths();
         chains();
         differences();

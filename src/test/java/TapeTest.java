@@ -47,6 +47,11 @@ public final class TapeTest {
         fault("heard 0; 0", 7);
         fault("heards 0 0", 0);
         fault("hear 0 0", 0);
+        fault("sawz 0 0", 0);
+        fault("saw{0 0", 3);
+        fault("saw`0 0", 3);
+        fault("saw/0 0", 3);
+        fault("saw:0 0", 3);
         fault("Heard 0 0", 0);
         fault("0", 0);
         fault("heard 000 1", 6);
@@ -89,6 +94,10 @@ public final class TapeTest {
         check.due("half behind seen", x.personOf(0, 3), 32);
         check.due("heard", x.personOf(0, 4) * 100 + x.personOf(1, 4) * 10 + x.personOf(2, 4), 1641);
         check.due("hears", x.personOf(2, 5), 1);
+        check.due("to nought again", Check.read(x, "dusk 0;signs 00;lies 0"), 3);
+        check.due("nought", x.status(2) + x.status(3) + x.status(4), 0);
+        check.due("the last one hears", Check.read(x, "heard 2 5;hears 2 1;hears 1 2"), 3);
+        check.due("heard by the last one", x.personOf(2, 4) * 10 + x.personOf(2, 5), 333);
         check.due("town behind a town", Check.read(x, "sights 6;person 0 0;hears 3 0"), 3);
         check.due("people then", x.status(1), 4);
         check.due("nothing refused", x.status(12), 0);
