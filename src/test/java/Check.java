@@ -39,6 +39,16 @@ final class Check {
         return x;
     }
 
+    /** So many SIGHTS, and PEOPLE of these KINDS. */
+    static OnlyUnseen of(int sights, int... kinds) {
+        OnlyUnseen x = new OnlyUnseen();
+        x.sights(sights);
+        for (int kind : kinds) {
+            x.person(kind, 0);
+        }
+        return x;
+    }
+
     /** A row of ints in shelf 0. */
     static OnlyUnseen withRow(OnlyUnseen x, int... elements) {
         x.row(0, 2, elements.length);

@@ -9,17 +9,8 @@ public final class EveningEdgesTest {
     private static final int LONGS = 3;
     private static final Check check = new Check();
 
-    private static OnlyUnseen of(int sights, int... kinds) {
-        OnlyUnseen x = new OnlyUnseen();
-        x.sights(sights);
-        for (int kind : kinds) {
-            x.person(kind, 0);
-        }
-        return x;
-    }
-
     private static OnlyUnseen sevenWhoGuess() {
-        return of(8, GUESS, GUESS, GUESS, GUESS, GUESS, GUESS, GUESS);
+        return Check.of(8, GUESS, GUESS, GUESS, GUESS, GUESS, GUESS, GUESS);
     }
 
     private static void asked(String name, int whom, int[] sets) {
@@ -69,7 +60,7 @@ public final class EveningEdgesTest {
     }
 
     private static void askOfNobodyAndOfLongs() {
-        OnlyUnseen x = of(4);
+        OnlyUnseen x = Check.of(4);
         x.row(0, LONGS, 2);
         x.set(0, 0, -1);
         check.due("nobody to ask", x.whom(0, 2), 0);
@@ -86,7 +77,7 @@ public final class EveningEdgesTest {
     }
 
     private static void anEveningOfNone() {
-        OnlyUnseen x = of(4, GUESS, PERSON);
+        OnlyUnseen x = Check.of(4, GUESS, PERSON);
         x.near(1, 0, true);
         x.hear(1, 2, true);
         for (int sort = 0; sort < 5; sort++) {
@@ -99,7 +90,7 @@ public final class EveningEdgesTest {
             check.due("evening", x.evening(0, 0), 1);
         }
         check.due("nothing is refused", x.status(12) + x.status(15), 0);
-        OnlyUnseen y = of(4, GUESS, GUESS, GUESS);
+        OnlyUnseen y = Check.of(4, GUESS, GUESS, GUESS);
         y.near(1, 0, true);
         y.near(2, 0, true);
         y.see(2, 0, 2);
@@ -112,7 +103,7 @@ public final class EveningEdgesTest {
     }
 
     private static void anEveningOfForty() {
-        OnlyUnseen x = of(8, GUESS, PERSON);
+        OnlyUnseen x = Check.of(8, GUESS, PERSON);
         x.near(1, 0, true);
         x.row(0, 0, 40);
         check.due("forty that may be", x.judge(0, 40), -1);
@@ -160,7 +151,7 @@ public final class EveningEdgesTest {
     }
 
     private static void noSayingOfNobody() {
-        OnlyUnseen x = of(4);
+        OnlyUnseen x = Check.of(4);
         x.row(0, 0, 1);
         check.due("judge", x.judge(0, 1), 0);
         check.due("falsely", x.falsely(0, 1), -2);
@@ -176,7 +167,7 @@ public final class EveningEdgesTest {
     }
 
     private static void sayingsComeOneAfterTheOther() {
-        OnlyUnseen x = of(4, PERSON, PERSON, TRUE);
+        OnlyUnseen x = Check.of(4, PERSON, PERSON, TRUE);
         x.hear(0, 1, true);
         x.near(1, 0, true);
         x.near(2, 1, true);
@@ -194,7 +185,7 @@ public final class EveningEdgesTest {
     }
 
     private static void falseIsOfWhatIsBarredWithoutRegardToOrder() {
-        OnlyUnseen x = of(4, LIAR, PERSON, BLIND);
+        OnlyUnseen x = Check.of(4, LIAR, PERSON, BLIND);
         x.see(0, 0, 2);
         x.see(0, 1, 1);
         x.see(1, 0, 2);
@@ -220,7 +211,7 @@ public final class EveningEdgesTest {
 
     private static void silentIsWhoHearsAndDoesNotAnswer() {
         // who guesses may always say it, so each who is silent is told by free() or by surely()
-        OnlyUnseen x = of(4, GUESS, GUESS, GUESS);
+        OnlyUnseen x = Check.of(4, GUESS, GUESS, GUESS);
         x.near(1, 0, true);
         x.near(2, 1, true);
         x.see(2, 3, 2);
@@ -238,7 +229,7 @@ public final class EveningEdgesTest {
         silent("ahead of the one whom they hear, behind another", Check.withRow(x, 23, 13, 3, 99), 6);
         check.due("the answer is behind n", Check.withRow(x, 3, 13).free(0, 1, 3), 2);
         check.due("the answer is the last", x.free(0, 2, 3), 0);
-        OnlyUnseen y = of(4, GUESS, GUESS, GUESS, GUESS, GUESS, GUESS, GUESS);
+        OnlyUnseen y = Check.of(4, GUESS, GUESS, GUESS, GUESS, GUESS, GUESS, GUESS);
         for (int p = 0; p < 6; p++) {
             y.near(p, 6, true);
         }
@@ -247,7 +238,7 @@ public final class EveningEdgesTest {
     }
 
     private static void surelyIsToWhomItIsBarredAndFreeWhoMaySay() {
-        OnlyUnseen x = of(4, GUESS, PERSON, TRUE, LIAR, BLIND, FORGETS, PERSON);
+        OnlyUnseen x = Check.of(4, GUESS, PERSON, TRUE, LIAR, BLIND, FORGETS, PERSON);
         for (int q = 1; q < 7; q++) {
             x.near(q, 0, true);
         }
@@ -263,7 +254,7 @@ public final class EveningEdgesTest {
         x.near(2, 1, true);
         check.due("who is true by one who has heard of it then", x.free(0, 1, 3), 2 + 4 + 16 + 32);
         check.due("in thought alone", x.personOf(1, 4), 0);
-        OnlyUnseen y = of(4, PERSON, PERSON, TRUE, PERSON);
+        OnlyUnseen y = Check.of(4, PERSON, PERSON, TRUE, PERSON);
         y.near(2, 0, true);
         y.near(2, 1, true);
         y.near(1, 3, true);
@@ -334,18 +325,18 @@ public final class EveningEdgesTest {
 
     private static void talkOfOneToForty() {
         for (int n = 1; n <= 40; n += 39) {
-            OnlyUnseen x = of(8, GUESS);
+            OnlyUnseen x = Check.of(8, GUESS);
             Draws draws = new Draws(1);
             for (int k = 0; k < 2 * n; k++) {
                 draws.below(1);
             }
             check.due("talk of " + n, x.talk(n), n);
             check.due("seed behind " + n, x.status(7), (int) draws.seed);
-            OnlyUnseen y = of(8, PERSON);
+            OnlyUnseen y = Check.of(8, PERSON);
             check.due("nothing that may be of " + n, y.talk(n), 0);
             check.due("drawn still, of " + n, y.status(7), (int) draws.seed);
         }
-        OnlyUnseen z = of(4);
+        OnlyUnseen z = Check.of(4);
         check.due("nobody", z.talk(1), -5);
         check.due("nothing is drawn", z.status(7), 1);
         check.due("too many", z.talk(41), -2);
@@ -356,7 +347,7 @@ public final class EveningEdgesTest {
     private static void nightTakesTheFirstSeen() {
         for (int kind = 0; kind < 6; kind++) {
             if (kind != BLIND) {
-                OnlyUnseen x = of(8, kind);
+                OnlyUnseen x = Check.of(8, kind);
                 for (int sight = 0; sight < 8; sight++) {
                     x.see(0, sight, sight == 1 ? 1 : 2);
                 }
@@ -370,7 +361,7 @@ public final class EveningEdgesTest {
                 }
             }
         }
-        OnlyUnseen y = of(4, FORGETS, FORGETS);
+        OnlyUnseen y = Check.of(4, FORGETS, FORGETS);
         y.see(1, 3, 2);
         y.hear(1, 3, true);
         check.due("the last, heard of already", y.night(), 1);

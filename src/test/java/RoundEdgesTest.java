@@ -7,18 +7,9 @@ public final class RoundEdgesTest {
     private static final int BLIND = 4;
     private static final Check check = new Check();
 
-    private static OnlyUnseen of(int sights, int... kinds) {
-        OnlyUnseen x = new OnlyUnseen();
-        x.sights(sights);
-        for (int kind : kinds) {
-            x.person(kind, 0);
-        }
-        return x;
-    }
-
     /** Seven who are PERSON, each of whom HEARS the one ahead. */
     private static OnlyUnseen line() {
-        OnlyUnseen x = of(4, 0, 0, 0, 0, 0, 0, 0);
+        OnlyUnseen x = Check.of(4, 0, 0, 0, 0, 0, 0, 0);
         for (int p = 1; p < 7; p++) {
             x.near(p, p - 1, true);
         }
@@ -27,7 +18,7 @@ public final class RoundEdgesTest {
 
     /** One has SEEN 8 SIGHTS, three others HEAR that one, by one SIGN in a ROUND: 24 ROUNDS that change something. */
     private static OnlyUnseen slowSigns() {
-        OnlyUnseen x = of(8, PERSON, PERSON, PERSON, PERSON);
+        OnlyUnseen x = Check.of(8, PERSON, PERSON, PERSON, PERSON);
         for (int sight = 0; sight < 8; sight++) {
             x.see(0, sight, 2);
         }
@@ -40,7 +31,7 @@ public final class RoundEdgesTest {
 
     private static void aRoundIsAllAtOnce() {
         OnlyUnseen x = line();
-        OnlyUnseen back = of(4, 0, 0, 0, 0, 0, 0, 0);
+        OnlyUnseen back = Check.of(4, 0, 0, 0, 0, 0, 0, 0);
         for (int p = 1; p < 7; p++) {
             back.near(p - 1, p, true);
         }
@@ -61,7 +52,7 @@ public final class RoundEdgesTest {
         check.due("in thought alone", x.known(), 1);
         check.due("a round in truth", x.round(), 2);
         check.due("rounds then", x.rounds(), 5);
-        OnlyUnseen y = of(4, GUESS, TRUE, PERSON);
+        OnlyUnseen y = Check.of(4, GUESS, TRUE, PERSON);
         y.near(1, 0, true);
         y.near(2, 1, true);
         y.hear(1, 2, true);
@@ -72,7 +63,7 @@ public final class RoundEdgesTest {
     }
 
     private static void signsAreAsManyAsMayBe() {
-        OnlyUnseen x = of(8, PERSON, PERSON, PERSON);
+        OnlyUnseen x = Check.of(8, PERSON, PERSON, PERSON);
         for (int sight = 0; sight < 8; sight++) {
             x.see(0, sight, 2);
         }
@@ -93,7 +84,7 @@ public final class RoundEdgesTest {
     }
 
     private static void signsAreByNumbersOfWhoMakesThem() {
-        OnlyUnseen x = of(4, PERSON, PERSON, PERSON, PERSON);
+        OnlyUnseen x = Check.of(4, PERSON, PERSON, PERSON, PERSON);
         x.near(0, 1, true);
         x.near(2, 1, true);
         x.near(3, 0, true);
@@ -110,7 +101,7 @@ public final class RoundEdgesTest {
     }
 
     private static void noSignOfWhatIsHeardOfAlready() {
-        OnlyUnseen x = of(4, PERSON, PERSON, PERSON, GUESS);
+        OnlyUnseen x = Check.of(4, PERSON, PERSON, PERSON, GUESS);
         x.see(0, 0, 2);
         x.see(0, 1, 2);
         x.near(1, 0, true);
@@ -165,7 +156,7 @@ public final class RoundEdgesTest {
     }
 
     private static void stopIsOfTheFewest() {
-        OnlyUnseen x = of(4, PERSON, PERSON, PERSON, PERSON, PERSON, PERSON);
+        OnlyUnseen x = Check.of(4, PERSON, PERSON, PERSON, PERSON, PERSON, PERSON);
         // a sign of 3 to 4 would be made, if not two others were made ahead of it: by 0 to 1, by 2 to 5
         x.see(3, 0, 2);
         x.see(1, 0, 2);
@@ -185,7 +176,7 @@ public final class RoundEdgesTest {
     }
 
     private static void fewerThanThoseOfLessBits() {
-        OnlyUnseen x = of(4, PERSON, PERSON, PERSON, PERSON, PERSON, PERSON);
+        OnlyUnseen x = Check.of(4, PERSON, PERSON, PERSON, PERSON, PERSON, PERSON);
         x.see(3, 0, 2);
         x.near(4, 3, true);
         x.ask(1, 9);
@@ -205,7 +196,7 @@ public final class RoundEdgesTest {
     }
 
     private static void stopOfAllOrNone() {
-        OnlyUnseen x = of(4, 0, 0, 0, 0, 0, 0, 0);
+        OnlyUnseen x = Check.of(4, 0, 0, 0, 0, 0, 0, 0);
         for (int p = 0; p < 7; p++) {
             check.due("stop of " + p, x.stop(3, 20), (1 << p) - 1);
             x.hear(p, 3, true);
@@ -217,7 +208,7 @@ public final class RoundEdgesTest {
     }
 
     private static void stopShowsNobodyWhoIsBlind() {
-        OnlyUnseen x = of(4, PERSON, BLIND);
+        OnlyUnseen x = Check.of(4, PERSON, BLIND);
         x.near(1, 0, true);
         x.hear(0, 0, true);
         check.due("one who'd hear it no more", x.stop(0, 20), 1);
@@ -232,7 +223,7 @@ public final class RoundEdgesTest {
         for (int one = 0; one < 7; one++) {
             int[] kinds = new int[7];
             kinds[one] = BLIND;
-            OnlyUnseen y = of(4, kinds);
+            OnlyUnseen y = Check.of(4, kinds);
             y.hear(one, 0, true);
             check.due("blind of number " + one, y.stop(0, 0), -1);
             y.hear(one, 0, false);
@@ -242,7 +233,7 @@ public final class RoundEdgesTest {
     }
 
     private static void stopCountsLiars() {
-        OnlyUnseen x = of(4, LIAR);
+        OnlyUnseen x = Check.of(4, LIAR);
         check.due("without lies", x.stop(1, 0), 1);
         x.ask(2, 1);
         check.due("by a lie", x.stop(1, 0), -1);
@@ -255,7 +246,7 @@ public final class RoundEdgesTest {
     }
 
     private static void stopShowsWhatWasHalfSeen() {
-        OnlyUnseen x = of(4, PERSON);
+        OnlyUnseen x = Check.of(4, PERSON);
         x.see(0, 0, 1);
         x.hear(0, 0, true);
         check.due("half seen by day", x.stop(0, 0), 1);
@@ -275,21 +266,21 @@ public final class RoundEdgesTest {
         check.due("first for two rounds", x.first(0, 2), 3);
         check.due("first for six rounds", x.first(0, 6), 0);
         check.due("nobody is told", x.known(), 1);
-        OnlyUnseen y = of(4, PERSON, PERSON);
+        OnlyUnseen y = Check.of(4, PERSON, PERSON);
         y.see(0, 0, 2);
         y.see(1, 0, 1);
         check.due("all know it", y.first(0, 20), 0);
-        OnlyUnseen z = of(4, BLIND);
+        OnlyUnseen z = Check.of(4, BLIND);
         check.due("one alone", z.first(3, 20), 0);
     }
 
     private static void orderOfSeveralTheFirst() {
-        OnlyUnseen x = of(4, 0, 0, 0, 0, 0, 0, 0);
+        OnlyUnseen x = Check.of(4, 0, 0, 0, 0, 0, 0, 0);
         check.due("nothing to say", x.order(-1), 0);
         for (int i = 0; i < 7; i++) {
             check.due("nothing to say, " + i, x.order(i), i);
         }
-        OnlyUnseen y = of(8, 0, 0, 0, 0, 0, 0, 0);
+        OnlyUnseen y = Check.of(8, 0, 0, 0, 0, 0, 0, 0);
         for (int p = 0; p < 6; p++) {
             y.near(p, p + 1, true);
         }
@@ -307,7 +298,7 @@ public final class RoundEdgesTest {
 
     private static void orderOfSeveralAmongOthers() {
         // one between can't have heard both ways at once: of four who hear their neighbours all can't know all
-        OnlyUnseen x = of(4, PERSON, PERSON, PERSON, PERSON);
+        OnlyUnseen x = Check.of(4, PERSON, PERSON, PERSON, PERSON);
         for (int p = 0; p < 3; p++) {
             x.near(p, p + 1, true);
             x.near(p + 1, p, true);
@@ -334,7 +325,7 @@ public final class RoundEdgesTest {
     }
 
     private static void orderHasNoSignsAndEachSpeaksOnce() {
-        OnlyUnseen x = of(4, PERSON, PERSON, PERSON);
+        OnlyUnseen x = Check.of(4, PERSON, PERSON, PERSON);
         x.near(1, 0, true);
         x.near(0, 1, true);
         x.near(2, 1, true);
@@ -349,7 +340,7 @@ public final class RoundEdgesTest {
         check.due("first", x.order(0), 0);
         check.due("second", x.order(1), 2);
         check.due("third", x.order(2), 1);
-        OnlyUnseen y = of(4, GUESS);
+        OnlyUnseen y = Check.of(4, GUESS);
         check.due("one alone knows", y.order(-1), 0);
         check.due("one alone speaks", y.order(0), 0);
     }
@@ -363,13 +354,13 @@ public final class RoundEdgesTest {
             check.due("by two " + p, x.worth(p, 2), p < 2 ? 2 - p : 0);
         }
         check.due("as it was", x.personOf(1, 5) * 10 + x.personOf(2, 5), 12);
-        OnlyUnseen y = of(4, GUESS);
+        OnlyUnseen y = Check.of(4, GUESS);
         check.due("one alone", y.worth(0, 20), 0);
-        OnlyUnseen z = of(4, PERSON, GUESS);
+        OnlyUnseen z = Check.of(4, PERSON, GUESS);
         z.near(0, 1, true);
         check.due("who alone hears", z.worth(0, 20), 0);
         check.due("who is alone heard", z.worth(1, 1), 4);
-        OnlyUnseen s = of(4, PERSON, PERSON, PERSON);
+        OnlyUnseen s = Check.of(4, PERSON, PERSON, PERSON);
         s.near(1, 0, true);
         s.near(2, 0, true);
         s.see(0, 0, 2);
@@ -403,12 +394,12 @@ public final class RoundEdgesTest {
         x.ask(0, 1);
         check.due("half seen at dusk", x.chain(0, 6, 0), -1);
         check.due("the same, barred or not", x.chain(3, 3, 0), 0);
-        OnlyUnseen back = of(4, 0, 0, 0, 0, 0, 0, 0);
+        OnlyUnseen back = Check.of(4, 0, 0, 0, 0, 0, 0, 0);
         for (int p = 0; p < 6; p++) {
             back.near(p, p + 1, true);
             check.due("back to the first " + p, back.chain(p + 1, 0, 3), p + 1);
         }
-        OnlyUnseen y = of(4, LIAR, LIAR, LIAR);
+        OnlyUnseen y = Check.of(4, LIAR, LIAR, LIAR);
         y.near(1, 0, true);
         y.near(2, 1, true);
         y.ask(2, 9);
@@ -417,7 +408,7 @@ public final class RoundEdgesTest {
     }
 
     private static void blindMayBeMoreOrLess() {
-        OnlyUnseen x = of(4, PERSON, PERSON);
+        OnlyUnseen x = Check.of(4, PERSON, PERSON);
         x.near(1, 0, true);
         x.see(0, 0, 2);
         x.see(0, 3, 1);
@@ -428,16 +419,16 @@ public final class RoundEdgesTest {
         check.due("half seen at dusk is said, too", x.blind(0, 1), 2);
         x.ask(0, 0);
         check.due("as it was", x.personOf(0, 0) * 100 + x.personOf(0, 2) * 10 + x.personOf(0, 4), 10);
-        OnlyUnseen y = of(8, GUESS, PERSON, PERSON, PERSON, PERSON, PERSON, PERSON);
+        OnlyUnseen y = Check.of(8, GUESS, PERSON, PERSON, PERSON, PERSON, PERSON, PERSON);
         for (int q = 1; q < 7; q++) {
             y.near(q, 0, true);
         }
         check.due("a guess says nothing then", y.blind(0, 1), -48);
-        OnlyUnseen z = of(4, BLIND, PERSON);
+        OnlyUnseen z = Check.of(4, BLIND, PERSON);
         z.near(1, 0, true);
         z.hear(0, 0, true);
         check.due("who is blind already", z.blind(0, 20), 0);
-        OnlyUnseen s = of(4, PERSON, PERSON, PERSON);
+        OnlyUnseen s = Check.of(4, PERSON, PERSON, PERSON);
         s.near(1, 0, true);
         s.near(2, 0, true);
         s.see(0, 0, 2);
@@ -447,7 +438,7 @@ public final class RoundEdgesTest {
     }
 
     private static void duskIsHowMuchMoreIsKnownByDay() {
-        OnlyUnseen x = of(4, PERSON, PERSON);
+        OnlyUnseen x = Check.of(4, PERSON, PERSON);
         x.near(1, 0, true);
         x.see(0, 0, 1);
         x.hear(0, 0, true);
@@ -459,7 +450,7 @@ public final class RoundEdgesTest {
             check.due("as it was", x.status(2), dusk);
         }
         // at DUSK a first SIGHT is BARRED, so the lie is of that, and not of the second
-        OnlyUnseen y = of(4, LIAR, PERSON);
+        OnlyUnseen y = Check.of(4, LIAR, PERSON);
         y.near(1, 0, true);
         y.ask(2, 1);
         y.see(0, 0, 1);

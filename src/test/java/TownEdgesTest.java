@@ -8,15 +8,6 @@ public final class TownEdgesTest {
     private static final int FORGETS = 5;
     private static final Check check = new Check();
 
-    private static OnlyUnseen of(int sights, int... kinds) {
-        OnlyUnseen x = new OnlyUnseen();
-        x.sights(sights);
-        for (int kind : kinds) {
-            x.person(kind, 0);
-        }
-        return x;
-    }
-
     private static int bitsOfMay(OnlyUnseen x, int one) {
         int bits = 0;
         for (int sight = 0; sight < x.status(0); sight++) {
@@ -47,7 +38,7 @@ public final class TownEdgesTest {
     }
 
     private static void allEightSights() {
-        OnlyUnseen x = of(8, PERSON, PERSON, PERSON);
+        OnlyUnseen x = Check.of(8, PERSON, PERSON, PERSON);
         for (int sight = 0; sight < 8; sight++) {
             check.due("see " + sight, x.see(0, sight, 2), 0);
             check.due("half " + sight, x.see(1, sight, 1), 0);
@@ -92,7 +83,7 @@ public final class TownEdgesTest {
 
     private static void nothingAtFirst() {
         for (int kind = 0; kind < 6; kind++) {
-            OnlyUnseen x = of(8, kind);
+            OnlyUnseen x = Check.of(8, kind);
             for (int what = 2; what < 8; what++) {
                 check.due("at first " + kind + " " + what, x.personOf(0, what), 0);
             }
@@ -102,7 +93,7 @@ public final class TownEdgesTest {
     }
 
     private static void nothingAtFirstForANumberThatWasAnothers() {
-        OnlyUnseen x = of(4, PERSON);
+        OnlyUnseen x = Check.of(4, PERSON);
         x.image();
         x.person(PERSON, 9);
         x.see(1, 0, 2);
@@ -121,7 +112,7 @@ public final class TownEdgesTest {
     }
 
     private static void seenHalfOrNeither() {
-        OnlyUnseen x = of(4, PERSON);
+        OnlyUnseen x = Check.of(4, PERSON);
         for (int was = 0; was < 3; was++) {
             for (int how = 0; how < 3; how++) {
                 x.see(0, 2, was);
@@ -135,7 +126,7 @@ public final class TownEdgesTest {
     }
 
     private static void duskIsNoughtAtFirstAndBarsNothingHalfSeen() {
-        OnlyUnseen x = of(4, PERSON);
+        OnlyUnseen x = Check.of(4, PERSON);
         x.see(0, 0, 1);
         x.hear(0, 0, true);
         check.due("by day", x.may(0, 0) * 10 + x.barred(0), 10);
@@ -167,7 +158,7 @@ public final class TownEdgesTest {
         for (int kind : new int[] {PERSON, FORGETS}) {
             for (int how = 0; how < 3; how++) {
                 for (int dusk = 0; dusk < 2; dusk++) {
-                    OnlyUnseen x = of(4, kind);
+                    OnlyUnseen x = Check.of(4, kind);
                     x.ask(0, dusk);
                     x.see(0, 3, how);
                     check.due("unheard", bitsOfMay(x, 0), 0);
@@ -179,7 +170,7 @@ public final class TownEdgesTest {
     }
 
     private static void trueOnesNeedOneWhomTheyHear() {
-        OnlyUnseen x = of(4, TRUE, PERSON, PERSON, PERSON, PERSON, PERSON, PERSON);
+        OnlyUnseen x = Check.of(4, TRUE, PERSON, PERSON, PERSON, PERSON, PERSON, PERSON);
         x.hear(0, 2, true);
         check.due("hears nobody", x.may(0, 2), 0);
         x.hear(1, 2, true);
@@ -208,7 +199,7 @@ public final class TownEdgesTest {
     }
 
     private static void guessesSayAllThatIsNotBarred() {
-        OnlyUnseen x = of(4, GUESS);
+        OnlyUnseen x = Check.of(4, GUESS);
         check.due("all", bitsOfMay(x, 0), 15);
         x.ask(2, 9);
         check.due("lies are no guesses", bitsOfMay(x, 0), 15);
@@ -225,7 +216,7 @@ public final class TownEdgesTest {
     }
 
     private static void liesAreOfTheFirstThatAreBarred() {
-        OnlyUnseen x = of(8, LIAR);
+        OnlyUnseen x = Check.of(8, LIAR);
         for (int sight : new int[] {1, 3, 4, 6}) {
             x.see(0, sight, 2);
         }
@@ -249,7 +240,7 @@ public final class TownEdgesTest {
     }
 
     private static void nothingIsBarredToWhoIsBlind() {
-        OnlyUnseen x = of(8, BLIND);
+        OnlyUnseen x = Check.of(8, BLIND);
         x.ask(0, 1);
         for (int sight = 0; sight < 8; sight++) {
             check.due("unheard", x.may(0, sight), 0);
@@ -264,7 +255,7 @@ public final class TownEdgesTest {
     }
 
     private static void aSayingIsHeardByAllWhoHear() {
-        OnlyUnseen x = of(4, LIAR, PERSON, TRUE, GUESS, LIAR, BLIND, FORGETS);
+        OnlyUnseen x = Check.of(4, LIAR, PERSON, TRUE, GUESS, LIAR, BLIND, FORGETS);
         check.due("nobody hears", x.say(0, 3), 0);
         x.see(0, 3, 2);
         x.ask(2, 1);
@@ -284,7 +275,7 @@ public final class TownEdgesTest {
     }
 
     private static void knownIsSeenHalfSeenOrHeard() {
-        OnlyUnseen x = of(4, PERSON);
+        OnlyUnseen x = Check.of(4, PERSON);
         check.due("nothing", x.known(), 0);
         x.see(0, 0, 2);
         x.hear(0, 0, true);
@@ -300,7 +291,7 @@ public final class TownEdgesTest {
     }
 
     private static void aSignIsOfWhatIsSeenToOneWhoHears() {
-        OnlyUnseen x = of(4, PERSON, PERSON, PERSON);
+        OnlyUnseen x = Check.of(4, PERSON, PERSON, PERSON);
         x.near(1, 0, true);
         x.near(2, 0, true);
         for (int how = 0; how < 3; how++) {
@@ -320,7 +311,7 @@ public final class TownEdgesTest {
     }
 
     private static void pairsHearEachOther() {
-        OnlyUnseen x = of(4);
+        OnlyUnseen x = Check.of(4);
         check.due("nobody", x.pairs(), 0);
         check.due("nobody is alone", x.alone(), 0);
         x.person(0, 0);
@@ -336,7 +327,7 @@ public final class TownEdgesTest {
     }
 
     private static void ofSeveralLoudestTheFirst() {
-        OnlyUnseen x = of(4, PERSON, PERSON, PERSON);
+        OnlyUnseen x = Check.of(4, PERSON, PERSON, PERSON);
         check.due("of silent ones", x.loudest(), 0);
         x.hear(2, 0, true);
         check.due("the last", x.loudest(), 2);
@@ -346,11 +337,11 @@ public final class TownEdgesTest {
         check.due("more", x.loudest(), 2);
         x.see(2, 3, 2);
         check.due("as much again", x.loudest(), 1);
-        OnlyUnseen y = of(4, PERSON, PERSON, PERSON, PERSON, PERSON, PERSON, PERSON);
+        OnlyUnseen y = Check.of(4, PERSON, PERSON, PERSON, PERSON, PERSON, PERSON, PERSON);
         check.due("of seven silent ones", y.loudest(), 0);
         y.hear(6, 3, true);
         check.due("the last of seven", y.loudest(), 6);
-        check.due("one alone", of(4, BLIND).loudest(), 0);
+        check.due("one alone", Check.of(4, BLIND).loudest(), 0);
     }
 
     public static void main(String[] args) {
